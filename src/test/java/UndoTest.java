@@ -1,0 +1,194 @@
+/** Promises 21 to 23: undo, save, restore. */
+public final class UndoTest {
+    public static void main(String[] args) {
+        undo();
+        sixStates();
+        everyChangeIsUndone();
+        undoLeavesThePadAndTheSlots();
+        undoneRoutes();
+        aPacketAfterAnUndoneOne();
+        save();
+        restore();
+        restoreIsAChange();
+        slotsAreKept();
+        Due.finish();
+    }
+
+    private static void undo() {
+        MeshTurns x = new MeshTurns();
+        Due.due("nothing to undo", x.undo(), MeshTurns.NOT_POSSIBLE);
+        x.send(0, 15);
+        x.ticks(3);
+        Due.due("undo the ticks", x.undo(), 1);
+        Due.due("the tick", x.count(0), 0);
+        Due.due("the packet is outside", x.ofPacket(0, 2), MeshTurns.OUTSIDE);
+        Due.due("no moves", x.count(7), 0);
+        Due.due("no moves from the box", x.ofBox(0, 7), 0);
+        Due.due("undo the send", x.undo(), 0);
+        Due.due("no packet", x.count(3), 0);
+        Due.due("no more to undo", x.undo(), MeshTurns.NOT_POSSIBLE);
+    }
+
+    private static void sixStates() {
+        MeshTurns x = new MeshTurns();
+        for (int i = 1; i <= 9; i++) {
+            x.ticks(1);
+            Due.due("changes to undo", x.count(13), Math.min(i, 6));
+        }
+        for (int i = 5; i >= 0; i--) {
+            Due.due("undo", x.undo(), i);
+            Due.due("the tick", x.count(0), 3 + i);
+        }
+        Due.due("the oldest were dropped", x.undo(), MeshTurns.NOT_POSSIBLE);
+        Due.due("the tick stays", x.count(0), 3);
+        // The same once more, with states that were used before.
+        for (int i = 1; i <= 8; i++) {
+            x.ticks(10);
+        }
+        Due.due("undo", x.undo(), 5);
+        Due.due("the tick", x.count(0), 73);
+        x.ticks(1);
+        Due.due("six again", x.count(13), 6);
+        Due.due("undo", x.undo(), 5);
+        Due.due("undo", x.undo(), 4);
+        Due.due("the tick", x.count(0), 63);
+    }
+
+    private static void everyChangeIsUndone() {
+        MeshTurns x = new MeshTurns();
+        x.mesh(3, 3);
+        Due.due("undo mesh", x.undo(), 0);
+        Due.due("16 boxes", x.count(1), 16);
+        x.set(MeshTurns.DETOURS, 3);
+        Due.due("undo set", x.undo(), 0);
+        Due.due("no detours", x.count(15), 0);
+        x.link(0, MeshTurns.NORTH, 0);
+        Due.due("undo link", x.undo(), 0);
+        Due.due("no broken link", x.count(11), 0);
+        x.save(1);
+        x.restore(1);
+        Due.due("undo restore", x.undo(), 0);
+        Due.write(x, "t5");
+        x.carryOut();
+        Due.due("undo carryOut", x.undo(), 0);
+        Due.due("the tick", x.count(0), 0);
+    }
+
+    private static void undoLeavesThePadAndTheSlots() {
+        MeshTurns x = new MeshTurns();
+        x.ticks(5);
+        x.save(0);
+        Due.write(x, "t1;t1");
+        Due.due("undo", x.undo(), 0);
+        Due.due("the pad", x.count(12), 5);
+        Due.due("the slot", x.restore(0), 5);
+    }
+
+    private static void undoneRoutes() {
+        MeshTurns x = new MeshTurns();
+        x.link(0, MeshTurns.EAST, 0);
+        Due.due("no way", x.leastWay(0, 1), MeshTurns.NONE);
+        x.undo();
+        Due.due("a way", x.leastWay(0, 1), 1);
+        x.set(MeshTurns.RULE, 0);
+        Due.due("six ways", x.ways(0, 10), 6);
+        x.undo();
+        Due.due("one way by the rule", x.ways(0, 10), 1);
+        x.mesh(5, 5);
+        x.undo();
+        Due.due("boxes 0 and 4 are neighbours again", x.leastWay(0, 4), 1);
+    }
+
+    private static void aPacketAfterAnUndoneOne() {
+        MeshTurns x = new MeshTurns();
+        x.set(MeshTurns.RULE, 0);
+        x.send(5, 0);
+        x.ticks(3);
+        x.undo();
+        x.undo();
+        Due.due("send", x.send(1, 2), 0);
+        int[] due = {1, 2, 0, 1, 0, 0, 0, 0, MeshTurns.NONE, 0, 1, 0, 0};
+        for (int what = 0; what < due.length; what++) {
+            Due.due("ofPacket(0, " + what + ")", x.ofPacket(0, what), due[what]);
+        }
+    }
+
+    private static void save() {
+        MeshTurns x = new MeshTurns();
+        Due.due("save(-1)", x.save(-1), MeshTurns.BAD_VALUE);
+        Due.due("save(2)", x.save(2), MeshTurns.BAD_VALUE);
+        Due.due("save(MAX)", x.save(Integer.MAX_VALUE), MeshTurns.BAD_VALUE);
+        x.ticks(4);
+        Due.due("save(0)", x.save(0), 4);
+        Due.due("save(1)", x.save(1), 4);
+        Due.due("save is no change", x.count(13), 1);
+        x.ticks(4);
+        Due.due("save over it", x.save(0), 8);
+        Due.due("restore(0)", x.restore(0), 8);
+        Due.due("restore(1)", x.restore(1), 4);
+    }
+
+    private static void restore() {
+        MeshTurns x = new MeshTurns();
+        Due.due("restore(-1)", x.restore(-1), MeshTurns.BAD_VALUE);
+        Due.due("restore(2)", x.restore(2), MeshTurns.BAD_VALUE);
+        Due.due("restore(0)", x.restore(0), MeshTurns.NOT_POSSIBLE);
+        Due.due("restore(1)", x.restore(1), MeshTurns.NOT_POSSIBLE);
+        Due.due("errors record nothing", x.count(13), 0);
+        x.mesh(3, 4);
+        x.set(MeshTurns.RULE, 0);
+        x.set(MeshTurns.DETOURS, 2);
+        x.set(MeshTurns.ROOM, 3);
+        x.link(1, MeshTurns.NORTH, 0);
+        x.send(0, 11);
+        x.ticks(2);
+        x.save(1);
+        Due.due("the other slot is empty", x.restore(0), MeshTurns.NOT_POSSIBLE);
+        x.set(MeshTurns.RULE, 1);
+        x.set(MeshTurns.DETOURS, 0);
+        x.set(MeshTurns.ROOM, 1);
+        x.link(1, MeshTurns.NORTH, 1);
+        x.link(1, MeshTurns.EAST, 0);
+        x.send(0, 3);
+        x.ticks(20);
+        Due.write(x, "t1");
+        Due.due("restore(1)", x.restore(1), 2);
+        int[] due = {2, 12, 3, 1, 0, 1, 0, 1, 0, 0, 0, 1, 2, 6, 0, 2, 3};
+        for (int what = 0; what < due.length; what++) {
+            Due.due("restored: count(" + what + ")", x.count(what), due[what]);
+        }
+        Due.due("the packet is where it was", x.ofPacket(0, 3), 1);
+        Due.due("the moves are as they were", x.ofBox(0, 7), 1);
+        Due.due("the link is broken", x.ofBox(1, 5), 0);
+        Due.due("the other one is whole", x.ofBox(1, 3), 1);
+        // From box 1 to box 11, four moves: by boxes 0 and 3 there would be two more.
+        Due.due("the ways are as they were", x.ofPacket(0, 10), 4);
+    }
+
+    private static void restoreIsAChange() {
+        MeshTurns x = new MeshTurns();
+        x.save(0);
+        x.ticks(9);
+        Due.due("restore", x.restore(0), 0);
+        Due.due("two changes", x.count(13), 2);
+        Due.due("undo the restore", x.undo(), 1);
+        Due.due("the tick", x.count(0), 9);
+        Due.due("restore once more", x.restore(0), 0);
+    }
+
+    /** What happens after a restore does not change what the slot holds. */
+    private static void slotsAreKept() {
+        MeshTurns x = new MeshTurns();
+        x.send(0, 3);
+        x.save(0);
+        x.restore(0);
+        x.ticks(10);
+        x.link(5, MeshTurns.EAST, 0);
+        x.set(MeshTurns.ROOM, 4);
+        Due.due("restore", x.restore(0), 0);
+        Due.due("no broken link", x.count(11), 0);
+        Due.due("the room", x.count(16), 1);
+        Due.due("the packet is outside", x.ofPacket(0, 2), MeshTurns.OUTSIDE);
+        Due.due("it waits for nobody", x.arrivesIn(0), 4);
+    }
+}

@@ -1,0 +1,261 @@
+/** Promises 10 to 16: leastWay, ways, pairs, worstLink, busiest, arrivesIn, arrivedBy. */
+public final class WhatIfTest {
+    public static void main(String[] args) {
+        leastWay();
+        ways();
+        waysWithDetours();
+        pairs();
+        worstLink();
+        worstLinkOfSeveral();
+        worstLinkNone();
+        busiest();
+        busiestOfSeveral();
+        arrivesIn();
+        arrivedBy();
+        nothingChanges();
+        Due.finish();
+    }
+
+    private static void leastWay() {
+        MeshTurns x = new MeshTurns();
+        Due.due("leastWay(0, 0)", x.leastWay(0, 0), 0);
+        Due.due("leastWay(0, 15)", x.leastWay(0, 15), 6);
+        Due.due("leastWay(15, 0)", x.leastWay(15, 0), 6);
+        Due.due("leastWay(-1, 0)", x.leastWay(-1, 0), MeshTurns.NO_SUCH);
+        Due.due("leastWay(0, -1)", x.leastWay(0, -1), MeshTurns.NO_SUCH);
+        Due.due("leastWay(16, 16)", x.leastWay(16, 16), MeshTurns.NO_SUCH);
+        Due.due("leastWay(0, MAX)", x.leastWay(0, Integer.MAX_VALUE), MeshTurns.NO_SUCH);
+        for (int side = 0; side < 4; side++) {
+            x.link(5, side, 0);
+        }
+        Due.due("no way to a box without links", x.leastWay(0, 5), MeshTurns.NONE);
+        Due.due("no way from it", x.leastWay(5, 0), MeshTurns.NONE);
+        Due.due("from it to itself", x.leastWay(5, 5), 0);
+        // From 4 to 7 the row is interrupted, and the rule allows no other way, nor do the detours.
+        Due.due("round it", x.leastWay(4, 7), MeshTurns.NONE);
+        x.set(MeshTurns.RULE, 0);
+        Due.due("round it without the rule", x.leastWay(4, 7), MeshTurns.NONE);
+        x.set(MeshTurns.DETOURS, 1);
+        Due.due("round it with a detour", x.leastWay(4, 7), 5);
+        Due.due("round it to the west", x.leastWay(7, 4), 5);
+        x.set(MeshTurns.RULE, 1);
+        Due.due("to the west the rule has no say", x.leastWay(7, 4), 5);
+        Due.due("to the east it has", x.leastWay(4, 7), MeshTurns.NONE);
+    }
+
+    private static void ways() {
+        MeshTurns x = new MeshTurns();
+        x.mesh(5, 5);
+        Due.due("ways(0, 0)", x.ways(0, 0), 1);
+        Due.due("ways(0, 24) by the rule", x.ways(0, 24), 1);
+        Due.due("ways(24, 0)", x.ways(24, 0), 70);
+        Due.due("ways(4, 20)", x.ways(4, 20), 70);
+        Due.due("ways(20, 4) by the rule", x.ways(20, 4), 1);
+        x.set(MeshTurns.RULE, 0);
+        Due.due("ways(0, 24)", x.ways(0, 24), 70);
+        Due.due("ways(20, 4)", x.ways(20, 4), 70);
+        x.link(0, MeshTurns.EAST, 0);
+        Due.due("half of them", x.ways(0, 24), 35);
+        x.link(0, MeshTurns.NORTH, 0);
+        Due.due("none", x.ways(0, 24), 0);
+        Due.due("ways(0, 0) all the same", x.ways(0, 0), 1);
+        Due.due("ways(-1, 0)", x.ways(-1, 0), MeshTurns.NO_SUCH);
+        Due.due("ways(0, 25)", x.ways(0, 25), MeshTurns.NO_SUCH);
+        Due.due("ways(25, 25)", x.ways(25, 25), MeshTurns.NO_SUCH);
+    }
+
+    private static void waysWithDetours() {
+        MeshTurns x = new MeshTurns();
+        x.mesh(3, 3);
+        x.set(MeshTurns.RULE, 0);
+        x.set(MeshTurns.DETOURS, 4);
+        Due.due("ways that are longer do not count", x.ways(3, 5), 1);
+        x.link(4, MeshTurns.EAST, 0);
+        // Round by the north or the south, and each link across may be taken ahead of the turn or behind it.
+        Due.due("leastWay(3, 5)", x.leastWay(3, 5), 4);
+        Due.due("ways(3, 5)", x.ways(3, 5), 4);
+        x.set(MeshTurns.DETOURS, 0);
+        Due.due("none without detours", x.ways(3, 5), 0);
+        // By the rule a detour to the east comes first: from box 0 east, north, and west to box 3.
+        x.set(MeshTurns.RULE, 1);
+        x.set(MeshTurns.DETOURS, 1);
+        x.link(0, MeshTurns.NORTH, 0);
+        Due.due("leastWay(0, 3)", x.leastWay(0, 3), 3);
+        Due.due("ways(0, 3)", x.ways(0, 3), 1);
+    }
+
+    private static void pairs() {
+        MeshTurns x = new MeshTurns();
+        x.mesh(2, 2);
+        Due.due("all pairs", x.pairs(), 12);
+        x.link(0, MeshTurns.EAST, 0);
+        // No way from 0 to 1 and from 1 to 0, and by the rule none from 0 to 3 but by box 1.
+        Due.due("one link is broken", x.pairs(), 8 + 1);
+        x.set(MeshTurns.RULE, 0);
+        Due.due("without the rule", x.pairs(), 10);
+        x.set(MeshTurns.DETOURS, 1);
+        Due.due("with detours", x.pairs(), 12);
+        x.link(2, MeshTurns.EAST, 0);
+        Due.due("two halves", x.pairs(), 4);
+        x.link(0, MeshTurns.NORTH, 0);
+        Due.due("one pair of boxes", x.pairs(), 2);
+        x.link(1, MeshTurns.NORTH, 0);
+        Due.due("none", x.pairs(), 0);
+        MeshTurns y = new MeshTurns();
+        y.mesh(5, 5);
+        Due.due("25 boxes", y.pairs(), 600);
+    }
+
+    private static void worstLink() {
+        MeshTurns x = new MeshTurns();
+        x.mesh(3, 2);
+        x.set(MeshTurns.RULE, 0);
+        x.set(MeshTurns.DETOURS, 4);
+        // With the link from 4 to 5 broken the two boxes of the last column hang on the one from 1 to 2.
+        x.link(4, MeshTurns.EAST, 0);
+        Due.due("the box", x.worstLink(0), 1);
+        Due.due("the side", x.worstLink(1), MeshTurns.EAST);
+        Due.due("the pairs", x.worstLink(2), 12 + 2);
+        x.link(1, MeshTurns.EAST, 0);
+        // What is left is a ring of four, and the link from 2 to 5.
+        Due.due("the box now", x.worstLink(0), 2);
+        Due.due("the side now", x.worstLink(1), MeshTurns.NORTH);
+        Due.due("the pairs now", x.worstLink(2), 12);
+        Due.due("worstLink(-1)", x.worstLink(-1), MeshTurns.BAD_VALUE);
+        Due.due("worstLink(3)", x.worstLink(3), MeshTurns.BAD_VALUE);
+        Due.due("no link was broken", x.count(11), 2);
+        Due.due("the pairs are the same", x.pairs(), 14);
+    }
+
+    private static void worstLinkOfSeveral() {
+        MeshTurns x = new MeshTurns();
+        x.mesh(2, 2);
+        x.set(MeshTurns.RULE, 0);
+        x.set(MeshTurns.DETOURS, 1);
+        // A ring: each link leaves all twelve pairs.
+        Due.due("the lowest box", x.worstLink(0), 0);
+        Due.due("east ahead of north", x.worstLink(1), MeshTurns.EAST);
+        Due.due("all are left", x.worstLink(2), 12);
+        x.link(0, MeshTurns.EAST, 0);
+        // A chain from 0 by 2 and 3 to 1: the one in the middle, from 2 to 3.
+        Due.due("the middle of the chain", x.worstLink(0), 2);
+        Due.due("its side", x.worstLink(1), MeshTurns.EAST);
+        Due.due("two pairs of boxes", x.worstLink(2), 4);
+        x.link(2, MeshTurns.EAST, 0);
+        Due.due("two alike: the lowest box", x.worstLink(0), 0);
+        Due.due("to the north", x.worstLink(1), MeshTurns.NORTH);
+        Due.due("one pair", x.worstLink(2), 2);
+    }
+
+    private static void worstLinkNone() {
+        MeshTurns x = new MeshTurns();
+        x.mesh(2, 2);
+        x.link(0, MeshTurns.EAST, 0);
+        x.link(0, MeshTurns.NORTH, 0);
+        x.link(3, MeshTurns.WEST, 0);
+        Due.due("the last whole link", x.worstLink(0), 1);
+        Due.due("nothing is left without it", x.worstLink(2), 0);
+        x.link(3, MeshTurns.SOUTH, 0);
+        for (int what = 0; what < 3; what++) {
+            Due.due("no link is whole", x.worstLink(what), MeshTurns.NONE);
+        }
+        Due.due("BAD_VALUE is ahead of NONE", x.worstLink(3), MeshTurns.BAD_VALUE);
+    }
+
+    private static void busiest() {
+        MeshTurns x = new MeshTurns();
+        Due.due("busiest(-1)", x.busiest(-1), MeshTurns.BAD_VALUE);
+        Due.due("busiest(3)", x.busiest(3), MeshTurns.BAD_VALUE);
+        for (int what = 0; what < 3; what++) {
+            Due.due("no move", x.busiest(what), MeshTurns.NONE);
+        }
+        x.set(MeshTurns.ROOM, 4);
+        x.send(15, 11);
+        x.send(15, 11);
+        x.send(1, 0);
+        x.ticks(1);
+        Due.due("no move, only inside", x.busiest(2), MeshTurns.NONE);
+        x.ticks(1);
+        Due.due("the box", x.busiest(0), 15);
+        Due.due("the side", x.busiest(1), MeshTurns.SOUTH);
+        Due.due("the moves", x.busiest(2), 2);
+    }
+
+    private static void busiestOfSeveral() {
+        MeshTurns x = new MeshTurns();
+        x.set(MeshTurns.ROOM, 4);
+        x.send(9, 5);
+        x.send(9, 13);
+        x.ticks(2);
+        Due.due("the box", x.busiest(0), 9);
+        Due.due("the lowest side", x.busiest(1), MeshTurns.NORTH);
+        x.send(6, 2);
+        x.ticks(2);
+        Due.due("the lowest box", x.busiest(0), 6);
+        Due.due("its side", x.busiest(1), MeshTurns.SOUTH);
+        Due.due("one move", x.busiest(2), 1);
+        // There and back are two sides of one link.
+        x.send(2, 6);
+        x.ticks(2);
+        Due.due("the box 2 now", x.busiest(0), 2);
+        Due.due("one move still", x.busiest(2), 1);
+    }
+
+    private static void arrivesIn() {
+        MeshTurns x = new MeshTurns();
+        Due.due("no packet", x.arrivesIn(0), MeshTurns.NO_SUCH);
+        x.send(0, 3);
+        x.send(0, 3);
+        Due.due("arrivesIn(-1)", x.arrivesIn(-1), MeshTurns.NO_SUCH);
+        Due.due("arrivesIn(2)", x.arrivesIn(2), MeshTurns.NO_SUCH);
+        Due.due("one tick to come in, three moves", x.arrivesIn(0), 4);
+        Due.due("one more behind it", x.arrivesIn(1), 5);
+        x.ticks(3);
+        Due.due("after three ticks", x.arrivesIn(0), 1);
+        x.ticks(1);
+        Due.due("arrived", x.arrivesIn(0), 0);
+        Due.due("the other one", x.arrivesIn(1), 1);
+        x.link(2, MeshTurns.EAST, 0);
+        Due.due("never", x.arrivesIn(1), MeshTurns.NONE);
+        Due.due("arrived all the same", x.arrivesIn(0), 0);
+    }
+
+    private static void arrivedBy() {
+        MeshTurns x = new MeshTurns();
+        x.send(0, 3);
+        x.send(0, 3);
+        x.send(4, 5);
+        Due.due("arrivedBy(0)", x.arrivedBy(0), MeshTurns.BAD_VALUE);
+        Due.due("arrivedBy(301)", x.arrivedBy(301), MeshTurns.BAD_VALUE);
+        Due.due("arrivedBy(MIN)", x.arrivedBy(Integer.MIN_VALUE), MeshTurns.BAD_VALUE);
+        int[] due = {0, 1, 1, 2, 3, 3};
+        for (int i = 0; i < due.length; i++) {
+            Due.due("arrivedBy(" + (i + 1) + ")", x.arrivedBy(i + 1), due[i]);
+        }
+        Due.due("arrivedBy(300)", x.arrivedBy(300), 3);
+        x.ticks(2);
+        Due.due("those that have arrived count", x.arrivedBy(1), 1);
+        x.link(0, MeshTurns.EAST, 0);
+        Due.due("one is cut off", x.arrivedBy(300), 2);
+    }
+
+    private static void nothingChanges() {
+        MeshTurns x = new MeshTurns();
+        x.send(0, 15);
+        x.send(15, 0);
+        x.ticks(2);
+        x.arrivesIn(0);
+        x.arrivedBy(300);
+        x.worstLink(2);
+        x.pairs();
+        x.ways(0, 15);
+        x.busiest(0);
+        Due.due("the tick", x.count(0), 2);
+        Due.due("the moves", x.count(7), 2);
+        Due.due("none has arrived", x.count(6), 0);
+        Due.due("no link is broken", x.count(11), 0);
+        Due.due("the history", x.count(13), 3);
+        Due.due("packet 0", x.ofPacket(0, 3), 1);
+        Due.due("its direction", x.ofPacket(0, 11), MeshTurns.EAST);
+    }
+}
