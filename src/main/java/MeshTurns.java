@@ -709,7 +709,7 @@ public final class MeshTurns {
             return p >= 0 && p < sent;
         }
 
-        /** The rows may hold numbers of a packet that was undone, so each one is written. */
+        /** Writes every row, so that nothing depends on what was there. */
         int add(int start, int goal, int tick) {
             int p = sent;
             if (p >= MOST_PACKETS) {

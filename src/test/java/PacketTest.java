@@ -13,6 +13,8 @@ public final class PacketTest {
         theRuleCountsWhenItIsSet();
         detours();
         fewerDetoursThanMade();
+        noMoreDetoursThanAllowed();
+        exactlyAsManyDetours();
         lessRoom();
         aCircleIsStuck();
         aWheelIsStuck();
@@ -59,8 +61,20 @@ public final class PacketTest {
         Due.due("TOO_MANY is ahead of NOT_POSSIBLE", x.send(0, 1), MeshTurns.TOO_MANY);
         Due.due("40 packets", x.count(3), 40);
         Due.due("the last one", x.ofPacket(39, 0), 7);
+        x.set(MeshTurns.ROOM, 4);
+        x.ticks(1);
+        Due.due("all are inside", x.count(5), 40);
+        Due.due("none moved", x.count(7), 0);
+        Due.due("no detours", x.count(8), 0);
+        Due.due("no waits", x.count(9), 0);
+        // From box 0 to box 1 the link is broken; from box 15 to box 0 and the like there is a way.
+        Due.due("stuck packets", x.count(10), 3);
+        Due.due("the last packet is not", x.ofPacket(39, 12), 0);
+        Due.due("inside of box 7", x.ofBox(7, 0), 3);
+        Due.due("arrived by then", x.arrivedBy(300), 37);
         x.link(0, MeshTurns.EAST, 1);
         x.ticks(300);
+        Due.due("all have arrived", x.count(6), 40);
         Due.due("arrived ones count, too", x.send(0, 1), MeshTurns.TOO_MANY);
     }
 
@@ -264,6 +278,63 @@ public final class PacketTest {
         Due.due("arrived", x.ofPacket(0, 2), MeshTurns.ARRIVED);
     }
 
+    private static void noMoreDetoursThanAllowed() {
+        MeshTurns x = new MeshTurns();
+        x.mesh(3, 3);
+        x.set(MeshTurns.RULE, 0);
+        x.link(0, MeshTurns.EAST, 0);
+        x.link(3, MeshTurns.EAST, 0);
+        // As above: two detours are needed.
+        for (int detours = 0; detours < 2; detours++) {
+            x.set(MeshTurns.DETOURS, detours);
+            Due.due("too few detours: " + detours, x.leastWay(0, 1), MeshTurns.NONE);
+            Due.due("no ways: " + detours, x.ways(0, 1), 0);
+            Due.due("no send: " + detours, x.send(0, 1), MeshTurns.NOT_POSSIBLE);
+        }
+        x.set(MeshTurns.DETOURS, 2);
+        x.link(3, MeshTurns.EAST, 1);
+        x.send(0, 1);
+        x.ticks(2);
+        Due.due("box 3 after one detour", x.ofPacket(0, 3), 3);
+        x.link(3, MeshTurns.EAST, 0);
+        Due.due("one more is left", x.ofPacket(0, 10), 4);
+        x.set(MeshTurns.DETOURS, 1);
+        Due.due("none is left", x.ofPacket(0, 10), MeshTurns.NONE);
+        Due.due("no direction", x.ofPacket(0, 11), MeshTurns.NONE);
+        Due.due("it is stuck", x.ofPacket(0, 12), 1);
+        x.ticks(1);
+        Due.due("it waits", x.ofPacket(0, 6), 1);
+        x.set(MeshTurns.DETOURS, 4);
+        Due.due("the shortest way is the length", x.ofPacket(0, 10), 4);
+        x.ticks(4);
+        Due.due("arrived with two detours", x.ofPacket(0, 5), 2);
+        Due.due("arrived with five moves", x.ofPacket(0, 4), 5);
+    }
+
+    /** A wall of n links to the east of the first column: round it there are as many detours. */
+    private static void exactlyAsManyDetours() {
+        for (int wall = 1; wall <= 4; wall++) {
+            MeshTurns x = new MeshTurns();
+            x.mesh(5, 5);
+            x.set(MeshTurns.RULE, 0);
+            for (int row = 0; row < wall; row++) {
+                x.link(5 * row, MeshTurns.EAST, 0);
+            }
+            for (int detours = 0; detours <= 4; detours++) {
+                x.set(MeshTurns.DETOURS, detours);
+                int due = detours < wall ? MeshTurns.NONE : 1 + 2 * wall;
+                Due.due("wall " + wall + ", detours " + detours, x.leastWay(0, 1), due);
+            }
+            Due.due("wall " + wall + ": send", x.send(0, 1), 0);
+            for (int detours = 0; detours <= 4; detours++) {
+                x.set(MeshTurns.DETOURS, detours);
+                int due = detours < wall ? MeshTurns.NONE : 1 + 2 * wall;
+                Due.due("wall " + wall + ", detours " + detours + ": packet", x.ofPacket(0, 10), due);
+                Due.due("its direction", x.ofPacket(0, 11), detours < wall ? MeshTurns.NONE : MeshTurns.NORTH);
+            }
+        }
+    }
+
     private static void lessRoom() {
         MeshTurns x = new MeshTurns();
         x.set(MeshTurns.ROOM, 2);
@@ -342,6 +413,13 @@ public final class PacketTest {
         x.link(2, MeshTurns.EAST, 1);
         x.set(MeshTurns.ROOM, 2);
         Due.due("none is stuck", x.count(10), 0);
+        MeshTurns y = new MeshTurns();
+        y.send(0, 3);
+        y.send(1, 3);
+        y.send(2, 3);
+        y.ticks(1);
+        Due.due("the same chain from its tail", y.count(10), 0);
+        Due.due("the tail is free", y.ofPacket(0, 12), 0);
     }
 
     /** Box 1 is full with a stuck packet and a free one: then the packet behind them is free, too. */

@@ -7,6 +7,8 @@ public final class UndoTest {
         undoLeavesThePadAndTheSlots();
         undoneRoutes();
         aPacketAfterAnUndoneOne();
+        everyNumberOfAPacket();
+        otherPacketsOfTheSameNumbers();
         save();
         restore();
         restoreIsAChange();
@@ -110,6 +112,79 @@ public final class UndoTest {
         int[] due = {1, 2, 0, 1, 0, 0, 0, 0, MeshTurns.NONE, 0, 1, 0, 0};
         for (int what = 0; what < due.length; what++) {
             Due.due("ofPacket(0, " + what + ")", x.ofPacket(0, what), due[what]);
+        }
+    }
+
+    /** Two packets, one arrived with a detour and one on its way, and the same after an undo and a restore. */
+    private static void everyNumberOfAPacket() {
+        MeshTurns x = new MeshTurns();
+        x.mesh(3, 3);
+        x.set(MeshTurns.RULE, 0);
+        x.set(MeshTurns.DETOURS, 1);
+        x.ticks(2);
+        x.link(0, MeshTurns.EAST, 0);
+        x.send(0, 1);
+        x.send(0, 7);
+        x.ticks(4);
+        int[][] due = {
+            {0, 1, 2, 1, 3, 1, 0, 2, 5, 1, 0, MeshTurns.NONE, 0},
+            {0, 7, 1, 4, 2, 0, 1, 2, MeshTurns.NONE, 1, 1, MeshTurns.NORTH, 0}};
+        packetsAre("at first", x, due);
+        x.save(0);
+        x.ticks(50);
+        x.undo();
+        packetsAre("after an undo", x, due);
+        x.send(8, 0);
+        x.send(7, 0);
+        x.ticks(50);
+        x.restore(0);
+        packetsAre("after a restore", x, due);
+        x.undo();
+        x.undo();
+        x.undo();
+        x.undo();
+        packetsAre("after more undos", x, due);
+    }
+
+    /** What a slot and the history hold of a packet replaces another one of the same number. */
+    private static void otherPacketsOfTheSameNumbers() {
+        MeshTurns x = new MeshTurns();
+        x.mesh(3, 3);
+        x.set(MeshTurns.RULE, 0);
+        x.set(MeshTurns.DETOURS, 1);
+        x.link(0, MeshTurns.EAST, 0);
+        x.send(0, 1);
+        x.send(0, 7);
+        x.ticks(4);
+        int[][] due = {
+            {0, 1, 2, 1, 3, 1, 0, 0, 3, 1, 0, MeshTurns.NONE, 0},
+            {0, 7, 1, 4, 2, 0, 1, 0, MeshTurns.NONE, 1, 1, MeshTurns.NORTH, 0}};
+        packetsAre("at first", x, due);
+        x.save(0);
+        for (int i = 0; i < 3; i++) {
+            x.undo();
+        }
+        Due.due("no packets", x.count(3), 0);
+        x.ticks(1);
+        x.send(8, 7);
+        x.send(1, 8);
+        x.ticks(2);
+        int[][] dueThen = {
+            {8, 7, 2, 7, 1, 0, 0, 1, 2, 1, 0, MeshTurns.NONE, 0},
+            {1, 8, 1, 2, 1, 0, 0, 1, MeshTurns.NONE, 0, 2, MeshTurns.NORTH, 0}};
+        packetsAre("others", x, dueThen);
+        x.restore(0);
+        packetsAre("restored", x, due);
+        x.undo();
+        packetsAre("others again", x, dueThen);
+    }
+
+    private static void packetsAre(String when, MeshTurns x, int[][] due) {
+        Due.due(when + ": packets", x.count(3), due.length);
+        for (int packet = 0; packet < due.length; packet++) {
+            for (int what = 0; what < due[packet].length; what++) {
+                Due.due(when + ": ofPacket(" + packet + ", " + what + ")", x.ofPacket(packet, what), due[packet][what]);
+            }
         }
     }
 

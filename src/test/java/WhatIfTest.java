@@ -199,6 +199,11 @@ public final class WhatIfTest {
         x.ticks(2);
         Due.due("the box 2 now", x.busiest(0), 2);
         Due.due("one move still", x.busiest(2), 1);
+        x.send(0, 1);
+        x.ticks(2);
+        Due.due("box 0 now", x.busiest(0), 0);
+        Due.due("to the east", x.busiest(1), MeshTurns.EAST);
+        Due.due("one move as before", x.busiest(2), 1);
     }
 
     private static void arrivesIn() {
