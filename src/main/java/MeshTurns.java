@@ -386,6 +386,9 @@ public final class MeshTurns {
 
     /** Returns whether the order could be carried out; if not, nothing has changed. */
     private boolean obey(int order) {
+        if (order < 0 || order >= pad.orders) {
+            return false;
+        }
         int first = pad.firsts[order];
         int second = pad.seconds[order];
         switch (pad.kinds[order]) {
@@ -481,7 +484,7 @@ public final class MeshTurns {
         }
 
         boolean hasRoom(int box) {
-            return inside[box] < settings[ROOM];
+            return box >= 0 && box < inside.length && inside[box] < settings[ROOM];
         }
 
         /** The way length of a packet that would be sent now. */
@@ -528,7 +531,7 @@ public final class MeshTurns {
 
         /** The box to which a packet goes takes it at any time. */
         boolean letsIn(int p, int box) {
-            return box != NO_BOX && (box == packets.to[p] || hasRoom(box));
+            return box == packets.to[p] || hasRoom(box);
         }
 
         int connectedPairs(Routes routes) {
@@ -771,7 +774,6 @@ public final class MeshTurns {
 
     /** The least moves from each spot to each box under the rule, however many detours they take. */
     private static final class Routes {
-        private int boxes = 0;
         private boolean eastIsFirst = false;
         /** By box and side: the box to which a packet can move, or NO_BOX. */
         private final int[] open = new int[MOST_BOXES * SIDES];
@@ -783,7 +785,7 @@ public final class MeshTurns {
         private int queued = 0;
 
         void learn(Grid grid, int rule) {
-            boxes = grid.boxes();
+            int boxes = grid.boxes();
             eastIsFirst = rule == 1;
             for (int box = 0; box < boxes; box++) {
                 for (int side = 0; side < SIDES; side++) {
@@ -798,11 +800,14 @@ public final class MeshTurns {
         }
 
         int boxBehind(int box, int side) {
-            return open[box * SIDES + side];
+            int index = box * SIDES + side;
+            return index >= 0 && index < open.length ? open[index] : NO_BOX;
         }
 
+        /** The least moves to a box, FAR if there is no way. */
         int length(int box, int turned, int to) {
-            return lengths[to * SPOTS + spot(box, turned)];
+            int index = to * SPOTS + spot(box, turned);
+            return index >= 0 && index < lengths.length ? lengths[index] : FAR;
         }
 
         /** The least moves after a move to a side, FAR if the packet may not make it. */
@@ -811,7 +816,7 @@ public final class MeshTurns {
             if (next == NO_BOX || !mayMove(turned, side)) {
                 return FAR;
             }
-            return lengths[to * SPOTS + spot(next, turnedAfter(turned, side))];
+            return length(next, side == EAST ? turned : 1, to);
         }
 
         int shortestWays(int from, int to) {
@@ -821,10 +826,6 @@ public final class MeshTurns {
 
         private static int spot(int box, int turned) {
             return turned * MOST_BOXES + box;
-        }
-
-        private static int turnedAfter(int turned, int side) {
-            return side == EAST ? turned : 1;
         }
 
         private boolean mayMove(int turned, int side) {
@@ -845,16 +846,22 @@ public final class MeshTurns {
             }
         }
 
-        /** Reaches every spot from which one move comes to this one. */
+        /**
+         * Reaches every spot from which one move comes to this one. A move to the east leaves it as it
+         * was whether the packet has turned, and any other one makes it so.
+         */
         private void stepBack(int to, int box, int turned) {
             int here = spot(box, turned);
             int length = lengths[to * SPOTS + here] + 1;
-            for (int side = 0; side < SIDES; side++) {
+            int western = boxBehind(box, WEST);
+            if (western != NO_BOX && mayMove(turned, EAST)) {
+                reach(to, spot(western, turned), length, numbers[here]);
+            }
+            for (int side = WEST; side < SIDES && turned == 1; side++) {
                 int before = boxBehind(box, opposite(side));
-                for (int earlier = 0; earlier < 2 && before != NO_BOX; earlier++) {
-                    if (mayMove(earlier, side) && turnedAfter(earlier, side) == turned) {
-                        reach(to, spot(before, earlier), length, numbers[here]);
-                    }
+                if (before != NO_BOX) {
+                    reach(to, spot(before, 0), length, numbers[here]);
+                    reach(to, spot(before, 1), length, numbers[here]);
                 }
             }
         }
@@ -887,10 +894,9 @@ public final class MeshTurns {
         /** By packet, as the last search left it. */
         private final boolean[] stuck = new boolean[MOST_PACKETS];
 
-        /** Asks for a packet that was sent. */
         boolean holds(State state, Routes routes, int p) {
             find(state, routes);
-            return stuck[p];
+            return state.packets.has(p) && stuck[p];
         }
 
         int size(State state, Routes routes) {
