@@ -25,6 +25,9 @@ public final class PacketTest {
         ofPacketErrors();
         ofBoxNumbers();
         countErrors();
+        sendToEveryBox();
+        ticksAreCounted();
+        everyNumberIsTold();
         Due.finish();
     }
 
@@ -539,5 +542,49 @@ public final class PacketTest {
         Due.due("packet 0 has arrived", x.count(6), 1);
         Due.due("packet 1 is inside", x.count(5), 1);
         Due.due("moves in all", x.count(7), 7);
+    }
+
+    private static void sendToEveryBox() {
+        for (int from = 0; from < 16; from++) {
+            MeshTurns x = new MeshTurns();
+            int sent = 0;
+            for (int to = -1; to <= 16; to++) {
+                boolean isGood = to >= 0 && to < 16 && to != from;
+                Due.due("send(" + from + ", " + to + ")", x.send(from, to), isGood ? sent : MeshTurns.NO_SUCH);
+                sent += isGood ? 1 : 0;
+            }
+            Due.due("outside of box " + from, x.ofBox(from, 1), 15);
+            Due.due("outside in all", x.count(4), 15);
+        }
+    }
+
+    private static void ticksAreCounted() {
+        int passed = 0;
+        MeshTurns x = new MeshTurns();
+        for (int ticks = -2; ticks <= 303; ticks++) {
+            boolean isGood = ticks >= 1 && ticks <= 300;
+            passed += isGood ? ticks : 0;
+            Due.due("ticks(" + ticks + ")", x.ticks(ticks), isGood ? passed : MeshTurns.BAD_VALUE);
+        }
+        Due.due("the tick", x.count(0), 300 * 301 / 2);
+    }
+
+    /** Whatever is asked: numbers of the range are answered, and those beside it are refused. */
+    private static void everyNumberIsTold() {
+        MeshTurns x = new MeshTurns();
+        x.send(5, 6);
+        x.ticks(1);
+        int[] ofPacket = {5, 6, 1, 5, 0, 0, 0, 0, MeshTurns.NONE, 0, 1, MeshTurns.EAST, 0};
+        int[] ofBox = {1, 0, 0, 1, 1, 1, 1, 0, 0, 0, 0};
+        int[] count = {1, 16, 4, 1, 0, 1, 0, 0, 0, 0, 0, 0, 0, 2, 1, 0, 1};
+        for (int what = -3; what <= 20; what++) {
+            Due.due("ofPacket(0, " + what + ")", x.ofPacket(0, what), known(ofPacket, what));
+            Due.due("ofBox(5, " + what + ")", x.ofBox(5, what), known(ofBox, what));
+            Due.due("count(" + what + ")", x.count(what), known(count, what));
+        }
+    }
+
+    private static int known(int[] numbers, int what) {
+        return what >= 0 && what < numbers.length ? numbers[what] : MeshTurns.BAD_VALUE;
     }
 }

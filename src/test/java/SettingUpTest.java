@@ -9,6 +9,10 @@ public final class SettingUpTest {
         link();
         linkErrors();
         linksOnEverySide();
+        objectsAreApart();
+        everyValueOfEverySetting();
+        meshAfterARestore();
+        meshOfTheSameSize();
         Due.finish();
     }
 
@@ -172,5 +176,71 @@ public final class SettingUpTest {
             Due.due("whole at side " + side, x.ofBox(4, 3 + side), 1);
         }
         Due.due("all are whole", x.count(11), 0);
+    }
+
+    private static void objectsAreApart() {
+        MeshTurns x = new MeshTurns();
+        MeshTurns y = new MeshTurns();
+        x.mesh(5, 5);
+        x.set(MeshTurns.ROOM, 4);
+        x.send(0, 24);
+        x.ticks(3);
+        x.save(0);
+        x.put('t');
+        int[] due = {0, 16, 4, 0, 0, 0, 0, 0, 0, 0, 0, 0, 0, 0, 1, 0, 1};
+        for (int what = 0; what < due.length; what++) {
+            Due.due("the other object: count(" + what + ")", y.count(what), due[what]);
+            Due.due("a third one: count(" + what + ")", new MeshTurns().count(what), due[what]);
+        }
+        Due.due("the other object: restore(0)", y.restore(0), MeshTurns.NOT_POSSIBLE);
+        Due.due("the first one has it all", x.count(0), 3);
+    }
+
+    private static void everyValueOfEverySetting() {
+        int[] least = {0, 0, 1};
+        int[] most = {1, 4, 4};
+        int[] first = {1, 0, 1};
+        for (int setting = 0; setting < 3; setting++) {
+            MeshTurns x = new MeshTurns();
+            int before = first[setting];
+            for (int value = -3; value <= 8; value++) {
+                boolean isGood = value >= least[setting] && value <= most[setting];
+                String call = "set(" + setting + ", " + value + ")";
+                Due.due(call, x.set(setting, value), isGood ? before : MeshTurns.BAD_VALUE);
+                before = isGood ? value : before;
+                Due.due(call + " seen", x.count(14 + setting), before);
+            }
+            for (int other = 0; other < 3; other++) {
+                Due.due("setting " + other + " then", x.count(14 + other), other == setting ? most[other] : first[other]);
+            }
+        }
+    }
+
+    /** "If a packet was ever sent": what a slot or the history brings back was, or was not. */
+    private static void meshAfterARestore() {
+        MeshTurns x = new MeshTurns();
+        x.save(0);
+        x.send(0, 1);
+        x.save(1);
+        Due.due("with a packet", x.mesh(3, 3), MeshTurns.NOT_POSSIBLE);
+        x.restore(0);
+        Due.due("restored without one", x.mesh(3, 3), 9);
+        x.restore(1);
+        Due.due("16 boxes again", x.count(1), 16);
+        Due.due("restored with one", x.mesh(3, 3), MeshTurns.NOT_POSSIBLE);
+        x.undo();
+        Due.due("the restore undone", x.mesh(2, 5), 10);
+    }
+
+    private static void meshOfTheSameSize() {
+        MeshTurns x = new MeshTurns();
+        x.link(5, MeshTurns.EAST, 0);
+        Due.due("mesh(4, 4)", x.mesh(4, 4), 16);
+        Due.due("all links are whole", x.count(11), 0);
+        Due.due("mesh(4, 4) once more", x.mesh(4, 4), 16);
+        Due.due("each is a change", x.count(13), 3);
+        x.undo();
+        x.undo();
+        Due.due("the link is broken again", x.ofBox(5, 3), 0);
     }
 }

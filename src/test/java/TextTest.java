@@ -12,6 +12,15 @@ public final class TextTest {
         ordersAreLikeCalls();
         oneChange();
         theLongestText();
+        everyLengthOfAPut();
+        everyCodeAtEveryPlace();
+        upToEightyExactly();
+        everySignAtItsPlace();
+        everyNumber();
+        everyCutAndEveryWrongSign();
+        theFirstOfSeveralFaults();
+        emptiedInEachCase();
+        eachErrorOfAnOrder();
         Due.finish();
     }
 
@@ -243,5 +252,178 @@ public final class TextTest {
         Due.write(x, "b0e" + text.substring(2, 77) + "9");
         Due.due("80 characters", x.put(';'), 80);
         Due.due("too early, though the pad is full", x.fault(), 80);
+    }
+
+    private static void everyLengthOfAPut() {
+        for (int length = 1; length <= 8; length++) {
+            MeshTurns x = new MeshTurns();
+            Due.due(length + " characters", x.put(Due.packed("t12;t34;".substring(0, length))), length);
+            Due.due(length + " characters on the pad", x.count(12), length);
+            Due.due(length + " characters wiped", x.wipe(), length);
+        }
+    }
+
+    /** Eight signs, one of which is replaced: the place 0 is the last character. */
+    private static void everyCodeAtEveryPlace() {
+        long eight = Due.packed("tttttttt");
+        for (int place = 0; place < 8; place++) {
+            MeshTurns x = new MeshTurns();
+            for (int code : new int[] {1, 31, 32, 127, 128, 200, 255}) {
+                long characters = eight & ~(255L << 8 * place) | (long) code << 8 * place;
+                Due.due("code " + code + " at place " + place, x.put(characters), MeshTurns.BAD_VALUE);
+            }
+            long gap = eight & ~(255L << 8 * place);
+            Due.due("no code at place " + place, x.put(gap), place == 7 ? 7 : MeshTurns.BAD_VALUE);
+            x.wipe();
+            for (int code : new int[] {33, 126}) {
+                long characters = eight & ~(255L << 8 * place) | (long) code << 8 * place;
+                Due.due("code " + code + " at place " + place, x.put(characters), 8);
+                x.wipe();
+            }
+            // One character, and a single bit somewhere above the 8 bits that are 0.
+            for (int bit = 8 * place + 16; bit < 64; bit++) {
+                long characters = eight & (1L << 8 * place + 8) - 1 | 1L << bit;
+                Due.due("bit " + bit + " above " + (place + 1) + " characters", x.put(characters), MeshTurns.BAD_VALUE);
+            }
+            Due.due("nothing was appended", x.count(12), 0);
+        }
+    }
+
+    private static void upToEightyExactly() {
+        for (int ahead = 70; ahead <= 80; ahead++) {
+            for (int more = 1; more <= 8; more++) {
+                MeshTurns x = new MeshTurns();
+                Due.write(x, "t".repeat(ahead));
+                int due = ahead + more <= 80 ? ahead + more : MeshTurns.TOO_MANY;
+                Due.due(more + " behind " + ahead, x.put(Due.packed("t".repeat(more))), due);
+                Due.due(more + " behind " + ahead + ": length", x.count(12), due < 0 ? ahead : due);
+            }
+        }
+    }
+
+    /** Behind a beginning, which character is the end of a text, which can go on, and which can't stand there. */
+    private static void everySignAfter(String ahead, String ends, String goesOn) {
+        for (char sign = 33; sign <= 126; sign++) {
+            int due = ahead.length();
+            if (ends.indexOf(sign) >= 0) {
+                due = MeshTurns.NONE;
+            } else if (goesOn.indexOf(sign) >= 0) {
+                due = ahead.length() + 1;
+            }
+            faultOf(ahead + sign, due);
+        }
+    }
+
+    private static void everySignAtItsPlace() {
+        String digits = "0123456789";
+        everySignAfter("", "", "sbmt");
+        everySignAfter("t", digits, "");
+        everySignAfter("t0", "", ";");
+        everySignAfter("t9", digits, ";");
+        everySignAfter("t99", "", ";");
+        everySignAfter("t1;", "", "sbmt");
+        everySignAfter("s", "", digits);
+        everySignAfter("s0", "", ">");
+        everySignAfter("s1", "", ">" + digits);
+        everySignAfter("s10", "", ">");
+        everySignAfter("s1>", digits, "");
+        everySignAfter("s1>0", "", ";");
+        everySignAfter("s1>9", digits, ";");
+        everySignAfter("s1>10", "", ";");
+        for (String kind : new String[] {"b", "m"}) {
+            everySignAfter(kind, "", digits);
+            everySignAfter(kind + "0", "ewns", "");
+            everySignAfter(kind + "5", "ewns", digits);
+            everySignAfter(kind + "24", "ewns", "");
+            everySignAfter(kind + "5e", "", ";");
+            everySignAfter("t1;" + kind + "5s", "", ";");
+        }
+    }
+
+    private static void everyNumber() {
+        for (int number = 0; number <= 1000; number++) {
+            String digits = String.valueOf(number);
+            faultOf("t" + digits, number <= 99 ? MeshTurns.NONE : 3);
+            faultOf("b" + digits + "n", number <= 99 ? MeshTurns.NONE : 3);
+            faultOf("s" + digits + ">7", number <= 99 ? MeshTurns.NONE : 3);
+            faultOf("s7>" + digits, number <= 99 ? MeshTurns.NONE : 5);
+        }
+        for (int number = 0; number <= 99; number++) {
+            faultOf("t0" + number, 2);
+            faultOf("m0" + number + "e", 2);
+            faultOf("s5>0" + number, 4);
+        }
+    }
+
+    private static void everyCutAndEveryWrongSign() {
+        String text = "s12>3;b10w;m0n;t99;s0>24;t5";
+        // The lengths of its beginnings that are texts themselves.
+        String whole = " 5 10 14 17 18 23 24 27 ";
+        for (int length = 0; length <= text.length(); length++) {
+            faultOf(text.substring(0, length), whole.contains(" " + length + " ") ? MeshTurns.NONE : length);
+        }
+        for (int place = 0; place < text.length(); place++) {
+            faultOf(text.substring(0, place) + "!" + text.substring(place + 1), place);
+        }
+    }
+
+    /** A fault is told at the first of several characters that cannot stand at their places. */
+    private static void theFirstOfSeveralFaults() {
+        faultOf("t1!!", 2);
+        faultOf("!!", 0);
+        faultOf("s1>2;b3e;m4x;t!", 11);
+        StringBuilder text = new StringBuilder("t10");
+        while (text.length() < 79) {
+            text.append(text.length() < 75 ? ";t10" : ";m0e");
+        }
+        faultOf(text.toString(), MeshTurns.NONE);
+        faultOf(text + ";", 80);
+        faultOf(text + "e", 79);
+    }
+
+    private static void emptiedInEachCase() {
+        MeshTurns x = new MeshTurns();
+        Due.write(x, "t1;t2");
+        x.carryOut();
+        Due.due("empty when all were carried out", x.count(12), 0);
+        Due.write(x, "t1;t0;t2");
+        x.carryOut();
+        Due.due("empty when one was", x.count(12), 0);
+        Due.write(x, "t0;t1");
+        x.carryOut();
+        Due.due("empty when none was", x.count(12), 0);
+        Due.due("nothing to wipe", x.wipe(), 0);
+        Due.due("four ticks", x.count(0), 4);
+        Due.due("three changes", x.count(13), 3);
+        x.undo();
+        Due.due("the pad does not come back", x.count(12), 0);
+        Due.due("nothing was different", x.count(0), 4);
+        x.undo();
+        Due.due("one tick less", x.count(0), 3);
+        x.undo();
+        Due.due("three ticks less", x.count(0), 0);
+    }
+
+    /** Each order that returns an error, between two that do not. */
+    private static void eachErrorOfAnOrder() {
+        String[] orders = {"t0", "s5>5", "s16>0", "s0>16", "s99>98", "s0>1", "b16e", "b99n", "b3e", "b4w", "b12n", "b0s", "m16e",
+            "m99s", "m3e", "m4w", "m15n", "m1s"};
+        for (String order : orders) {
+            MeshTurns x = new MeshTurns();
+            x.link(0, MeshTurns.EAST, 0);
+            Due.write(x, "t7;" + order + ";t9");
+            Due.due(order + ": no fault", x.fault(), MeshTurns.NONE);
+            Due.due(order + ": one carried out", x.carryOut(), 1);
+            Due.due(order + ": seven ticks", x.count(0), 7);
+            Due.due(order + ": no packet", x.count(3), 0);
+            Due.due(order + ": one broken link", x.count(11), 1);
+            Due.due(order + ": the pad is empty", x.count(12), 0);
+            Due.due(order + ": one change more", x.count(13), 2);
+        }
+        MeshTurns x = new MeshTurns();
+        Due.write(x, "t1;t99;b0e;b0e;m0e;m0e;s0>1;s15>0");
+        Due.due("orders that return none", x.carryOut(), 8);
+        Due.due("a hundred ticks", x.count(0), 100);
+        Due.due("two packets", x.count(3), 2);
     }
 }

@@ -13,6 +13,13 @@ public final class UndoTest {
         restore();
         restoreIsAChange();
         slotsAreKept();
+        movesOfEveryBox();
+        whatIsNoChange();
+        exactlySixOrSeven();
+        changesWithoutADifference();
+        slotsAreApart();
+        theHistoryAndTheSlotsStay();
+        fiveHundredAndTwelveCalls();
         Due.finish();
     }
 
@@ -265,5 +272,150 @@ public final class UndoTest {
         Due.due("the room", x.count(16), 1);
         Due.due("the packet is outside", x.ofPacket(0, 2), MeshTurns.OUTSIDE);
         Due.due("it waits for nobody", x.arrivesIn(0), 4);
+    }
+
+    private static void movesAre(String when, MeshTurns x, int due) {
+        for (int box = 0; box < 25; box++) {
+            boolean isOnTheWay = box > 20;
+            Due.due(when + ": moves to the west of " + box, x.ofBox(box, 8), isOnTheWay ? due : 0);
+        }
+    }
+
+    private static void movesOfEveryBox() {
+        MeshTurns x = new MeshTurns();
+        x.mesh(5, 5);
+        x.send(24, 20);
+        x.send(24, 20);
+        x.ticks(9);
+        movesAre("at first", x, 2);
+        x.save(1);
+        x.undo();
+        movesAre("undone", x, 0);
+        x.restore(1);
+        movesAre("restored", x, 2);
+        x.undo();
+        movesAre("the restore undone", x, 0);
+        x.ticks(2);
+        Due.due("one move from box 24", x.ofBox(24, 8), 1);
+        Due.due("none from box 23 yet", x.ofBox(23, 8), 0);
+        x.restore(1);
+        movesAre("restored again", x, 2);
+    }
+
+    private static void whatIsNoChange() {
+        MeshTurns x = new MeshTurns();
+        x.send(0, 5);
+        x.ticks(2);
+        x.ofPacket(0, 10);
+        x.ofBox(0, 0);
+        x.count(10);
+        x.leastWay(0, 5);
+        x.ways(0, 5);
+        x.pairs();
+        x.worstLink(0);
+        x.busiest(0);
+        x.arrivesIn(0);
+        x.arrivedBy(300);
+        x.put('t');
+        x.fault();
+        x.carryOut();
+        x.wipe();
+        x.save(0);
+        Due.due("two changes", x.count(13), 2);
+        Due.due("undo is none", x.undo(), 1);
+        Due.due("undo is none", x.undo(), 0);
+        Due.due("undo is not undone", x.undo(), MeshTurns.NOT_POSSIBLE);
+        Due.due("nothing comes back", x.count(0), 0);
+    }
+
+    private static void exactlySixOrSeven() {
+        MeshTurns x = new MeshTurns();
+        for (int i = 1; i <= 6; i++) {
+            x.ticks(1);
+        }
+        for (int i = 5; i >= 0; i--) {
+            Due.due("undo one of six", x.undo(), i);
+        }
+        Due.due("the very first state", x.count(0), 0);
+        for (int i = 1; i <= 7; i++) {
+            x.ticks(1);
+        }
+        Due.due("six are kept", x.count(13), 6);
+        for (int i = 5; i >= 0; i--) {
+            Due.due("undo one of seven", x.undo(), i);
+        }
+        Due.due("the state behind the first change", x.count(0), 1);
+        Due.due("the one ahead of it was dropped", x.undo(), MeshTurns.NOT_POSSIBLE);
+    }
+
+    private static void changesWithoutADifference() {
+        MeshTurns x = new MeshTurns();
+        x.set(MeshTurns.RULE, 1);
+        x.mesh(4, 4);
+        x.link(0, MeshTurns.EAST, 1);
+        x.save(0);
+        x.restore(0);
+        Due.write(x, "t0");
+        Due.due("no order", x.carryOut(), 0);
+        Due.due("five changes", x.count(13), 5);
+        x.ticks(1);
+        for (int i = 5; i >= 0; i--) {
+            Due.due("undo", x.undo(), i);
+            Due.due("the tick", x.count(0), 0);
+        }
+    }
+
+    private static void slotsAreApart() {
+        MeshTurns x = new MeshTurns();
+        x.ticks(1);
+        x.save(0);
+        x.ticks(1);
+        x.save(1);
+        x.ticks(1);
+        for (int i = 0; i < 3; i++) {
+            Due.due("slot 0", x.restore(0), 1);
+            Due.due("slot 1", x.restore(1), 2);
+        }
+        x.save(0);
+        Due.due("slot 0 is as slot 1", x.restore(0), 2);
+        x.ticks(5);
+        x.save(1);
+        Due.due("slot 0 is kept", x.restore(0), 2);
+        Due.due("slot 1 is overwritten", x.restore(1), 7);
+    }
+
+    /** Neither undo nor restore changes the pad, the other slot, or the rest of the history. */
+    private static void theHistoryAndTheSlotsStay() {
+        MeshTurns x = new MeshTurns();
+        x.save(1);
+        x.ticks(1);
+        x.ticks(2);
+        x.save(0);
+        Due.write(x, "t5;");
+        Due.due("restore", x.restore(1), 0);
+        Due.due("the pad", x.count(12), 3);
+        Due.due("one change more", x.count(13), 3);
+        Due.due("undo the restore", x.undo(), 2);
+        Due.due("the tick", x.count(0), 3);
+        x.save(1);
+        Due.due("undo", x.undo(), 1);
+        Due.due("the tick", x.count(0), 1);
+        Due.due("undo", x.undo(), 0);
+        Due.due("the tick", x.count(0), 0);
+        Due.due("the pad", x.count(12), 3);
+        Due.due("what was saved is not undone", x.restore(0), 3);
+        Due.due("nor in the other slot", x.restore(1), 3);
+        x.undo();
+        x.undo();
+        Due.due("the tick", x.count(0), 0);
+        Due.due("the slot is as it was", x.restore(1), 3);
+    }
+
+    private static void fiveHundredAndTwelveCalls() {
+        MeshTurns x = new MeshTurns();
+        for (int call = 1; call <= 511; call++) {
+            Due.due("call " + call, x.ticks(300), 300 * call);
+        }
+        Due.due("call 512", x.undo(), 5);
     }
 }

@@ -13,6 +13,14 @@ public final class WhatIfTest {
         arrivesIn();
         arrivedBy();
         nothingChanges();
+        eachLinkIsTheWorst();
+        eachSideIsTheBusiest();
+        aSideNotABox();
+        errorsAheadOfNone();
+        alwaysAndNever();
+        fortyAfterEachOther();
+        forecastsComeTrue();
+        everyWayOfAWholeMesh();
         Due.finish();
     }
 
@@ -262,5 +270,174 @@ public final class WhatIfTest {
         Due.due("the history", x.count(13), 3);
         Due.due("packet 0", x.ofPacket(0, 3), 1);
         Due.due("its direction", x.ofPacket(0, 11), MeshTurns.EAST);
+    }
+
+    /** With one link whole alone, it is the worst one, wherever it is. */
+    private static void eachLinkIsTheWorst() {
+        for (int box = 0; box < 25; box++) {
+            for (int side = 0; side <= 2; side += 2) {
+                boolean isLink = side == 0 ? box % 5 < 4 : box < 20;
+                if (isLink) {
+                    MeshTurns x = new MeshTurns();
+                    x.mesh(5, 5);
+                    for (int other = 0; other < 25; other++) {
+                        x.link(other, MeshTurns.EAST, 0);
+                        x.link(other, MeshTurns.NORTH, 0);
+                    }
+                    x.link(box, side, 1);
+                    String at = "link " + box + ", " + side + ": ";
+                    Due.due(at + "pairs", x.pairs(), 2);
+                    Due.due(at + "box", x.worstLink(0), box);
+                    Due.due(at + "side", x.worstLink(1), side);
+                    Due.due(at + "left", x.worstLink(2), 0);
+                    Due.due(at + "broken links", x.count(11), 39);
+                }
+            }
+        }
+    }
+
+    private static void eachSideIsTheBusiest() {
+        for (int box = 0; box < 25; box++) {
+            int[] beside = {box + 1, box - 1, box + 5, box - 5};
+            boolean[] isThere = {box % 5 < 4, box % 5 > 0, box < 20, box >= 5};
+            for (int side = 0; side < 4; side++) {
+                if (isThere[side]) {
+                    MeshTurns x = new MeshTurns();
+                    x.mesh(5, 5);
+                    x.send(box, beside[side]);
+                    x.ticks(2);
+                    Due.due("busiest box " + box, x.busiest(0), box);
+                    Due.due("busiest side " + side + " of box " + box, x.busiest(1), side);
+                    Due.due("one move from box " + box, x.busiest(2), 1);
+                }
+            }
+        }
+    }
+
+    /** Three moves from box 5 to three sides are less than two from box 10 to one side. */
+    private static void aSideNotABox() {
+        MeshTurns x = new MeshTurns();
+        x.set(MeshTurns.ROOM, 4);
+        x.send(5, 6);
+        x.send(5, 4);
+        x.send(5, 9);
+        x.send(10, 14);
+        x.send(10, 14);
+        x.ticks(2);
+        Due.due("box", x.busiest(0), 10);
+        Due.due("side", x.busiest(1), MeshTurns.NORTH);
+        Due.due("moves", x.busiest(2), 2);
+        x.undo();
+        Due.due("no move was made", x.busiest(0), MeshTurns.NONE);
+    }
+
+    private static void errorsAheadOfNone() {
+        MeshTurns x = new MeshTurns();
+        x.mesh(2, 2);
+        for (int box = 0; box < 4; box++) {
+            for (int side = 0; side < 4; side++) {
+                x.link(box, side, 0);
+            }
+        }
+        Due.due("no link is whole", x.count(11), 4);
+        Due.due("leastWay(0, 4)", x.leastWay(0, 4), MeshTurns.NO_SUCH);
+        Due.due("leastWay(4, 4)", x.leastWay(4, 4), MeshTurns.NO_SUCH);
+        Due.due("ways(4, 0)", x.ways(4, 0), MeshTurns.NO_SUCH);
+        Due.due("worstLink(3)", x.worstLink(3), MeshTurns.BAD_VALUE);
+        Due.due("busiest(3)", x.busiest(3), MeshTurns.BAD_VALUE);
+        for (int box = 0; box < 4; box++) {
+            Due.due("the same box: no moves", x.leastWay(box, box), 0);
+            Due.due("the same box: one way", x.ways(box, box), 1);
+            Due.due("another box: no way length", x.leastWay(box, 3 - box), MeshTurns.NONE);
+            Due.due("another box: no ways", x.ways(box, 3 - box), 0);
+        }
+        Due.due("no pairs", x.pairs(), 0);
+    }
+
+    private static void alwaysAndNever() {
+        MeshTurns x = new MeshTurns();
+        x.send(0, 4);
+        x.send(0, 1);
+        x.send(2, 3);
+        x.ticks(2);
+        x.undo();
+        x.link(0, MeshTurns.NORTH, 0);
+        Due.due("never: it has no way", x.arrivesIn(0), MeshTurns.NONE);
+        Due.due("never: it stays outside", x.arrivesIn(1), MeshTurns.NONE);
+        Due.due("in two ticks", x.arrivesIn(2), 2);
+        Due.due("one by tick 300", x.arrivedBy(300), 1);
+        Due.due("none by tick 1", x.arrivedBy(1), 0);
+        Due.due("one by tick 2", x.arrivedBy(2), 1);
+        x.ticks(300);
+        Due.due("arrived now", x.arrivesIn(2), 0);
+        Due.due("still outside", x.ofPacket(1, 2), MeshTurns.OUTSIDE);
+        Due.due("still never", x.arrivesIn(1), MeshTurns.NONE);
+    }
+
+    private static void fortyAfterEachOther() {
+        MeshTurns x = new MeshTurns();
+        for (int packet = 0; packet < 40; packet++) {
+            x.send(0, 3);
+        }
+        // Each comes inside when the one ahead has left, and makes three moves.
+        for (int packet = 0; packet < 40; packet++) {
+            Due.due("arrivesIn(" + packet + ")", x.arrivesIn(packet), packet + 4);
+        }
+        for (int ticks = 1; ticks <= 50; ticks++) {
+            Due.due("arrivedBy(" + ticks + ")", x.arrivedBy(ticks), Math.min(40, Math.max(0, ticks - 3)));
+        }
+        Due.due("arrivedBy(300)", x.arrivedBy(300), 40);
+        Due.due("no tick has passed", x.count(0), 0);
+    }
+
+    /** What is told ahead is what the ticks bring. */
+    private static void forecastsComeTrue() {
+        MeshTurns x = new MeshTurns();
+        x.mesh(4, 3);
+        x.set(MeshTurns.RULE, 0);
+        x.set(MeshTurns.DETOURS, 2);
+        x.link(5, MeshTurns.EAST, 0);
+        int[] from = {4, 7, 0, 11, 5, 6, 4, 7};
+        int[] to = {7, 4, 11, 0, 6, 5, 6, 5};
+        for (int packet = 0; packet < from.length; packet++) {
+            x.send(from[packet], to[packet]);
+        }
+        int[] arrivesIn = new int[from.length];
+        for (int packet = 0; packet < from.length; packet++) {
+            arrivesIn[packet] = x.arrivesIn(packet);
+        }
+        for (int ticks = 1; ticks <= 20; ticks++) {
+            int due = x.arrivedBy(ticks);
+            x.ticks(ticks);
+            Due.due("arrived after " + ticks, x.count(6), due);
+            for (int packet = 0; packet < from.length; packet++) {
+                boolean isThere = arrivesIn[packet] >= 0 && arrivesIn[packet] <= ticks;
+                Due.due("packet " + packet + " after " + ticks, x.ofPacket(packet, 2) == MeshTurns.ARRIVED ? 1 : 0, isThere ? 1 : 0);
+            }
+            x.undo();
+        }
+    }
+
+    /** With all links whole the ways are those of a grid; by the rule there is one alone as soon as it goes east. */
+    private static void everyWayOfAWholeMesh() {
+        for (int rule = 0; rule <= 1; rule++) {
+            for (int from = 0; from < 25; from++) {
+                MeshTurns x = new MeshTurns();
+                x.mesh(5, 5);
+                x.set(MeshTurns.RULE, rule);
+                // Each is asked twice, upwards and downwards, so that nothing depends on what was asked ahead of it.
+                for (int i = 0; i < 50; i++) {
+                    int to = i < 25 ? i : 49 - i;
+                    int across = to % 5 - from % 5;
+                    int along = Math.abs(to / 5 - from / 5);
+                    int due = rule == 1 && across > 0 ? 1 : gridWays(Math.abs(across), along);
+                    Due.due("rule " + rule + ": ways(" + from + ", " + to + ")", x.ways(from, to), due);
+                }
+            }
+        }
+    }
+
+    private static int gridWays(int across, int along) {
+        return across == 0 || along == 0 ? 1 : gridWays(across - 1, along) + gridWays(across, along - 1);
     }
 }
