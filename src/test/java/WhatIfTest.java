@@ -21,6 +21,7 @@ public final class WhatIfTest {
         fortyAfterEachOther();
         forecastsComeTrue();
         everyWayOfAWholeMesh();
+        theLatestArrivalThatWasFound();
         Due.finish();
     }
 
@@ -415,6 +416,43 @@ public final class WhatIfTest {
                 Due.due("packet " + packet + " after " + ticks, x.ofPacket(packet, 2) == MeshTurns.ARRIVED ? 1 : 0, isThere ? 1 : 0);
             }
             x.undo();
+        }
+    }
+
+    /**
+     * Nearly all boxes of a ring are full, and one room goes round in it against the packets, so that about one of them
+     * moves in a tick. No state was found in which a packet arrives later than after 255 ticks.
+     */
+    private static void theLatestArrivalThatWasFound() {
+        MeshTurns x = new MeshTurns();
+        x.mesh(5, 5);
+        x.set(MeshTurns.RULE, 0);
+        x.set(MeshTurns.DETOURS, 4);
+        Due.write(x, "b5e;b10e;b11e;b12e;b15e;b18e;b1n;b2n;b3n;b7n;b8n;b9n;b16n;b17n;b18n");
+        Due.due("fifteen links are broken", x.carryOut(), 15);
+        int[] from = {6, 6, 20, 11, 20, 6, 21, 22, 6, 7, 23, 11, 6, 6, 24, 19, 4, 4, 6, 14,
+            4, 7, 13, 4, 3, 2, 18, 1, 6, 18, 0, 9, 17, 5, 6, 6, 16, 6, 10, 6};
+        int[] to = {8, 7, 12, 8, 4, 11, 9, 4, 7, 11, 9, 8, 7, 20, 3, 0, 20, 21, 7, 0,
+            22, 6, 11, 23, 24, 19, 0, 14, 7, 5, 13, 7, 5, 18, 11, 11, 8, 11, 17, 10};
+        int[] due = {5, 5, 231, 9, 255, 9, 252, 251, 10, 11, 248, 34, 34, 242, 248, 249, 240, 239, 45, 247,
+            238, 3, 75, 237, 236, 235, 245, 234, 46, 244, 233, 6, 242, 232, 47, 48, 70, 70, 231, 241};
+        for (int packet = 0; packet < from.length; packet++) {
+            Due.due("packet " + packet, x.send(from[packet], to[packet]), packet);
+        }
+        for (int packet = 0; packet < from.length; packet++) {
+            Due.due("late: arrivesIn(" + packet + ")", x.arrivesIn(packet), due[packet]);
+        }
+        Due.due("all but one", x.arrivedBy(254), 39);
+        Due.due("all", x.arrivedBy(255), 40);
+        Due.due("all by tick 300", x.arrivedBy(300), 40);
+        x.ticks(100);
+        Due.due("after a hundred ticks", x.arrivesIn(4), 155);
+        x.ticks(154);
+        Due.due("the last tick", x.arrivesIn(4), 1);
+        x.ticks(1);
+        Due.due("it is there", x.arrivesIn(4), 0);
+        for (int packet = 0; packet < from.length; packet++) {
+            Due.due("the tick in which packet " + packet + " arrived", x.ofPacket(packet, 8), due[packet] - 1);
         }
     }
 
